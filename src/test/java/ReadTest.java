@@ -37,6 +37,7 @@ public final class ReadTest {
         reads("general 1 when 1 < 1", -3);
         reads("code x 1", -2);
         reads("code 1234567 1", -2);
+        reads("code 0000001 1", -2);
         reads("code -1 1", -2);
         reads("code 1 10", -3);
         reads("code 1 1 1", -4);
@@ -134,6 +135,8 @@ public final class ReadTest {
         due.is("lacks(0, 0)", x.lacks(0, 0), -1);
         due.is("needs(0, 1)", x.needs(0, 1), true);
         due.is("lacks(0, 0), the paper is forgotten", x.lacks(0, 0), 1);
+        due.is("needs(0, 0)", x.needs(0, 0), true);
+        due.is("lacks(0, 0)", x.lacks(0, 0), 0);
         Due.say(x, "oil");
         due.is("near(0)", x.near(0), -1);
         due.is("history(0, 0) stays", x.history(0, 0), 5);

@@ -5,6 +5,8 @@ public final class TrialTest {
     public static void main(String[] args) {
         facts();
         operators();
+        strictOperators();
+        lastBranch();
         inTheirOrder();
         asksInOrder();
         generalGivesWay();
@@ -44,6 +46,22 @@ public final class TrialTest {
             x.fact(0, values[i]);
             is(x, codes[i], codes[i] - 1, -1);
         }
+    }
+
+    private static void strictOperators() {
+        CodeRules x = Due.told("code 1 0 when 0 < 5 code 2 0 when 0 > 5");
+        x.fact(0, 5);
+        is(x, -1, -1, -1);
+    }
+
+    private static void lastBranch() {
+        CodeRules x = Due.told(Due.row(29, "code # 0 when 1 = 2") + "code 77 0 when 1 = 3 when 2 = 4");
+        x.fact(1, 3);
+        is(x, -2, -2, 2);
+        x.fact(2, 4);
+        is(x, 77, 29, -1);
+        x.fact(2, 5);
+        is(x, -1, -1, -1);
     }
 
     private static void inTheirOrder() {
