@@ -162,14 +162,15 @@ public final class CodeRules {
 
     /** Promise 20. */
     public int put(int place) {
-        if (!isBelow(place, PLACES)) {
+        // The place comes first: one that can take nothing answers NONE while a fact is asked for too.
+        if (!histories.hasRoom(place)) {
             return NONE;
         }
         int now = code();
-        if (now < 0) {
-            return now;
+        if (now >= 0) {
+            histories.append(place, now);
         }
-        return histories.append(place, now) ? now : NONE;
+        return now;
     }
 
     /** Promise 21. */
@@ -906,13 +907,17 @@ public final class CodeRules {
         private final int[] counts = new int[PLACES];
         private final int[] had = new int[PLACES * MOST_HISTORY];
 
-        boolean append(int place, int code) {
-            if (!isBelow(place, PLACES) || counts[place] >= MOST_HISTORY) {
-                return false;
+        /** Whether there is such a place, and it had fewer than twelve. */
+        boolean hasRoom(int place) {
+            return isBelow(place, PLACES) && counts[place] < MOST_HISTORY;
+        }
+
+        void append(int place, int code) {
+            if (!hasRoom(place)) {
+                return;
             }
             had[place * MOST_HISTORY + counts[place]] = code;
             counts[place]++;
-            return true;
         }
 
         int recall(int place, int k) {

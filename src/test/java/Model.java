@@ -314,11 +314,11 @@ final class Model {
         if (place < 0 || place > 7) {
             return -1;
         }
-        int code = code();
         List<Integer> had = places.computeIfAbsent(place, p -> new ArrayList<>());
-        if (code >= 0 && had.size() == 12) {
+        if (had.size() == 12) {
             return -1;
         }
+        int code = code();
         if (code >= 0) {
             had.add(0, code);
         }

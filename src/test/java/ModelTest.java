@@ -95,6 +95,14 @@ public final class ModelTest {
         return 1;
     }
 
+    /** Many at once now and then, since single ones seldom fill a place. */
+    private static void puts(CodeRules x, Model model, int place) {
+        int count = below(4) == 0 ? 12 : 1;
+        for (int i = 0; i < count; i++) {
+            due.is("put", x.put(place), model.put(place));
+        }
+    }
+
     private static void ask(CodeRules x, Model model, int call) {
         int a = about(10);
         int b = about(12);
@@ -126,7 +134,7 @@ public final class ModelTest {
                 break;
             case 16: due.is("allows", x.allows(a % 7, b, c), model.allows(a % 7, b, c)); break;
             case 17: due.is("check", x.check(a % 7, b), model.check(a % 7, b)); break;
-            case 18: due.is("put", x.put(a), model.put(a)); break;
+            case 18: puts(x, model, a); break;
             default: due.is("history", x.history(a, b), model.history(a, b)); break;
         }
     }

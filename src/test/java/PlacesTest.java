@@ -6,6 +6,7 @@ public final class PlacesTest {
         putsAndHistory();
         nothingTaken();
         mostOfAPlace();
+        mostGoesAheadOfOpen();
         due.end();
     }
 
@@ -55,7 +56,26 @@ public final class PlacesTest {
         due.is("history(3, 12)", x.history(3, 12), -1);
         due.is("put(4)", x.put(4), 2);
         due.is("history(4, 0)", x.history(4, 0), 2);
+    }
+
+    private static void mostGoesAheadOfOpen() {
+        CodeRules x = Due.told("code 1 0 when 0 = 1");
+        x.fact(0, 1);
+        for (int i = 0; i < 11; i++) {
+            x.put(3);
+        }
         x.clearFacts();
-        due.is("put(3), a fact is asked for", x.put(3), -2);
+        due.is("put(3) as the 12th, a fact is asked for", x.put(3), -2);
+        x.fact(0, 1);
+        due.is("put(3) as the 12th", x.put(3), 1);
+        x.clearFacts();
+        due.is("put(3) as the 13th, a fact is asked for", x.put(3), -1);
+        due.is("put(4), a fact is asked for", x.put(4), -2);
+        due.is("asks()", x.asks(), 0);
+        x.fact(0, 2);
+        due.is("put(3) as the 13th, no branch is taken", x.put(3), -1);
+        due.is("history(3, 11)", x.history(3, 11), 1);
+        due.is("history(3, 12)", x.history(3, 12), -1);
+        due.is("history(4, 0)", x.history(4, 0), -1);
     }
 }
