@@ -1,21 +1,46 @@
-/** Counts the answers of one test that are not the ones that are due. */
+/** The cases of one test class: every answer that is not the one due is printed with its promise and case. */
 final class Due {
+    // Long runs of a broken program would tell millions.
+    private static final int MOST_TOLD = 100;
+
     private final String test;
+    private String at = "";
     private int wrong;
 
     Due(String test) {
         this.test = test;
     }
 
+    /** A case, under the name of its promise and of what the document says there. */
+    void test(String promiseAndCase, Runnable body) {
+        at = promiseAndCase;
+        try {
+            body.run();
+        } catch (RuntimeException thrown) {
+            tell("threw " + thrown);
+        }
+    }
+
     void is(String call, int got, int want) {
         if (got != want) {
-            wrong++;
-            System.out.println(test + ": " + call + " answered " + got + ", due is " + want);
+            tell(call + " answered " + got + ", due is " + want);
         }
     }
 
     void is(String call, boolean got, boolean want) {
         is(call, got ? 1 : 0, want ? 1 : 0);
+    }
+
+    /** What a new object answers to a text. */
+    void reads(String text, int want) {
+        is("read() of '" + text + "'", read(new CodeRules(), text), want);
+    }
+
+    private void tell(String fault) {
+        wrong++;
+        if (wrong <= MOST_TOLD) {
+            System.out.println(test + ": " + at + ": " + fault);
+        }
     }
 
     void end() {
@@ -39,8 +64,9 @@ final class Due {
 
     static CodeRules told(String text) {
         CodeRules x = new CodeRules();
-        if (read(x, text) < 0) {
-            throw new IllegalStateException("a test's text is refused: " + text);
+        int answer = read(x, text);
+        if (answer < 0) {
+            throw new IllegalStateException("read() answered " + answer + " to '" + text + "'");
         }
         return x;
     }

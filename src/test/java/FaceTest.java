@@ -1,5 +1,6 @@
 import java.lang.reflect.Constructor;
 import java.lang.reflect.Field;
+import java.lang.reflect.Member;
 import java.lang.reflect.Method;
 import java.lang.reflect.Modifier;
 import java.util.Set;
@@ -30,20 +31,25 @@ public final class FaceTest {
         due.end();
     }
 
+    /** What the compiler adds by itself is not of the program's face. */
+    private static boolean isSeen(Member member) {
+        return !Modifier.isPrivate(member.getModifiers()) && !member.isSynthetic();
+    }
+
     private static Set<String> seenMembers() {
         Set<String> seen = new TreeSet<>();
         for (Field field : CodeRules.class.getDeclaredFields()) {
-            if (!Modifier.isPrivate(field.getModifiers())) {
+            if (isSeen(field)) {
                 seen.add(Modifier.toString(field.getModifiers()) + " " + field.getType() + " " + field.getName());
             }
         }
         for (Constructor<?> made : CodeRules.class.getDeclaredConstructors()) {
-            if (!Modifier.isPrivate(made.getModifiers())) {
+            if (isSeen(made)) {
                 seen.add(made.toString());
             }
         }
         for (Method method : CodeRules.class.getDeclaredMethods()) {
-            if (!Modifier.isPrivate(method.getModifiers())) {
+            if (isSeen(method)) {
                 seen.add(method.toString().replace("CodeRules.", ""));
             }
         }
